@@ -40,6 +40,10 @@ public final class SpillQueue {
     private static final int COUNT = 2;
     private static final int LEVEL = 3;
 
+    /** What run() tells beside those four. */
+    private static final int BLOCKS_OF_RUN = 4;
+    private static final int LEAST_KEY = 5;
+
     private static final int MAX_RUNS = (MAX_WORDS - TABLE) / RUN_WORDS;
 
     private static final int DONE = 0;
@@ -185,9 +189,9 @@ public final class SpillQueue {
                 return runs.count[i];
             case LEVEL:
                 return runs.level[i];
-            case 4:
+            case BLOCKS_OF_RUN:
                 return disk.blocksFor(runs.begin[i] + runs.count[i]);
-            case 5:
+            case LEAST_KEY:
                 return runs.headOf(i);
             default:
                 throw new IndexOutOfBoundsException("what is 0 .. 5");
@@ -374,7 +378,7 @@ public final class SpillQueue {
             return block >= 0 && block < blocks && i >= 0 && i < words;
         }
 
-        /** Looks at its indexes itself, not by has(): most calls end here, none is to go deeper. */
+        /** 0 where there is no word. It does not ask has(), so that calls stay within rule 11. */
         private int get(int block, int i) {
             if (block < 0 || block >= blocks || i < 0 || i >= words) {
                 return 0;
@@ -504,12 +508,10 @@ public final class SpillQueue {
             return count > 0 ? keys[count - 1] : NO_KEY;
         }
 
-        @Override
         int howMany() {
             return count;
         }
 
-        @Override
         int takeLeast() {
             int key = least();
             if (count > 0) {
@@ -662,7 +664,6 @@ public final class SpillQueue {
             }
         }
 
-        @Override
         int howMany() {
             int keys = 0;
             for (int i = 0; i < number; i++) {
@@ -671,7 +672,6 @@ public final class SpillQueue {
             return keys;
         }
 
-        @Override
         int takeLeast() {
             return takeFrom(leastAt(true));
         }

@@ -7,6 +7,8 @@ public final class Promise03InsertTest {
         aFullMemorySpillsFirst();
         levelsAreMerged();
         mostRunsAreMergedFirst();
+        aboveTheGreatestLevel();
+        theLeastCrowdedLevelFirst();
         noRoomToMergeAll();
         noRoomBehindTheMerge();
         noRoomToMergeALevelIsNoHarm();
@@ -83,7 +85,36 @@ public final class Promise03InsertTest {
         C.takesDue("all", q, 5, 6, 7, 8, 9, -1);
     }
 
-    /** Two synced runs in the only two blocks, and a full memory. */
+    private static void aboveTheGreatestLevel() {
+        SpillQueue q = twoSyncedRuns(20, 11);
+        q.cut();
+        Make.forge(q, 11, 1, 10, 5);
+        C.due("recover()", q.recover(), 2);
+        Make.insertAll(C, q, 3, 4);
+        C.runDue("above run 1's level", q, 0, 4, 0, 2, 6, 1, 20);
+        C.runDue("behind it", q, 1, 5, 0, 1, 0, 1, 3);
+    }
+
+    private static void theLeastCrowdedLevelFirst() {
+        SpillQueue q = Make.formatted(20, 23, 1, 2);
+        Make.insertAll(C, q, 1, 2, 3, 4, 5, 6, 7);
+        C.due("sync()", q.sync(), 0);
+        C.due("levels 2, 1 and 0", q.about(0), 3);
+        q.cut();
+        Make.forge(q, 23, 0, 6, 9);
+        Make.forge(q, 23, 0, 10, 9);
+        C.due("recover()", q.recover(), 7);
+        Make.insertAll(C, q, 8, 0);
+        C.due("both levels are merged", q.about(0), 2);
+        C.due("level 0 first", q.run(0, 3), 1);
+        C.due("its keys", q.run(0, 2), 2);
+        C.due("its least key", q.run(0, 5), 7);
+        C.due("then level 9", q.run(1, 3), 10);
+        C.due("its keys", q.run(1, 2), 6);
+        C.due("its least key", q.run(1, 5), 1);
+    }
+
+    /** Two synced runs in blocks 2 and 3, and a full memory. */
     private static SpillQueue twoSyncedRuns(int blocks, int words) {
         SpillQueue q = Make.formatted(blocks, words, 1, 5);
         Make.insertAll(C, q, 30);

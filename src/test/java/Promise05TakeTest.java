@@ -5,6 +5,7 @@ public final class Promise05TakeTest {
     public static void main(String[] args) {
         fromMemoryBeforeRuns();
         fromTheFirstRunThatHasIt();
+        theLevelGoesWithItsRun();
         blocksGo();
         syncedBlocksAreKept();
         C.end();
@@ -48,6 +49,19 @@ public final class Promise05TakeTest {
         C.takesDue("run 0 goes", other, 1);
         C.runDue("the next is run 0", other, 0, 3, 0, 1, 0, 1, 2);
         C.runDue("and the one behind it run 1", other, 1, 4, 0, 1, 0, 1, 3);
+    }
+
+    private static void theLevelGoesWithItsRun() {
+        SpillQueue q = Make.formatted(12, 15, 1, 3);
+        Make.insertAll(C, q, 1);
+        C.due("sync()", q.sync(), 0);
+        Make.insertAll(C, q, 2);
+        C.due("sync()", q.sync(), 0);
+        q.cut();
+        Make.forge(q, 15, 1, 10, 4);
+        C.due("recover()", q.recover(), 2);
+        C.takesDue("run 0 goes", q, 1);
+        C.runDue("run 1 is run 0 now", q, 0, 3, 0, 1, 4, 1, 2);
     }
 
     private static SpillQueue twentyKeysInThreeBlocks() {

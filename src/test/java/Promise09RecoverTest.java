@@ -170,6 +170,10 @@ public final class Promise09RecoverTest {
     }
 
     private static void whatIsStillGood() {
+        SpillQueue behind = twoRuns();
+        Make.forge(behind, WORDS, 0, 4, PER_BLOCK);
+        Make.forge(behind, WORDS, 0, 5, 20 - PER_BLOCK);
+        C.due("recover(), all keys are behind the first block", behind.recover(), -3);
         goodWhen("a greater epoch", 0, 1, Integer.MAX_VALUE - 1, 20);
         goodWhen("no runs", 0, 2, 0, 0);
         goodWhen("one run less", 0, 2, 1, 18);
@@ -211,6 +215,14 @@ public final class Promise09RecoverTest {
             q.take();
         }
         C.due("recover()", q.recover(), 4);
+        C.takesDue("all", q, 40, 41, 42, 43, -1);
+        C.due("free", q.about(2), 6);
+        for (int round = 0; round < 30; round++) {
+            q.insert(round);
+            q.insert(100 + round);
+            q.take();
+        }
+        C.due("recover() from a recovered one", q.recover(), 4);
         C.takesDue("all", q, 40, 41, 42, 43, -1);
     }
 }
