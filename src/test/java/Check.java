@@ -38,6 +38,12 @@ final class Check {
         throwsDue(call, IndexOutOfBoundsException.class, it);
     }
 
+    void same(String what, String got, String want) {
+        if (!got.equals(want)) {
+            say(what + ":\n  got " + got + "\n  due " + want);
+        }
+    }
+
     void say(String text) {
         wrong++;
         System.out.println(text);
@@ -59,6 +65,14 @@ final class Check {
         for (int i = 0; i < want.length; i++) {
             due(when + ": word(" + block + ", " + i + ")", q.word(block, i), want[i]);
         }
+    }
+
+    /** The whole block: these words from word 1 on, zeros behind them, and their sum in word 0. */
+    void wholeBlockDue(String when, SpillQueue q, int words, int block, int... fromWordOne) {
+        int[] due = new int[words];
+        System.arraycopy(fromWordOne, 0, due, 1, fromWordOne.length);
+        due[0] = Make.sumOf(due);
+        blockDue(when, q, block, due);
     }
 
     void takesDue(String when, SpillQueue q, int... want) {

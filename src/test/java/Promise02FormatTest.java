@@ -5,6 +5,8 @@ public final class Promise02FormatTest {
     public static void main(String[] args) {
         aNewDisk();
         theLimits();
+        everyCornerIsTaken();
+        oneStepBeyondIsRefused();
         aWrongCallChangesNothing();
         anotherFormatForgetsAll();
         C.end();
@@ -45,6 +47,46 @@ public final class Promise02FormatTest {
         for (int i = 0; i < words.length; i++) {
             q.format(4, words[i], 1, 2);
             C.due("MOST of " + words[i] + " words", q.about(4), most[i]);
+        }
+    }
+
+    /** "blocks .. 4 .. 200, words .. 11 .. 40, mem .. 1 .. 100, .. fan .. 2 .. 5" */
+    private static final int[][] LIMITS = {{4, 200}, {11, 40}, {1, 100}, {2, 5}};
+
+    private static int[] corner(int number) {
+        int[] sizes = new int[4];
+        for (int i = 0; i < 4; i++) {
+            sizes[i] = LIMITS[i][number >> i & 1];
+        }
+        return sizes;
+    }
+
+    private static void everyCornerIsTaken() {
+        SpillQueue q = new SpillQueue();
+        for (int number = 0; number < 16; number++) {
+            int[] s = corner(number);
+            String when = "format " + java.util.Arrays.toString(s);
+            q.format(s[0], s[1], s[2], s[3]);
+            C.aboutDue(when, q, 0, 0, s[0] - 2, 1, (s[1] - 3) / 4, 1, 0);
+            C.due(when + ": the last word", q.word(s[0] - 1, s[1] - 1), 0);
+            C.badIndex(when + ": a block more", () -> q.word(s[0], 0));
+            C.badIndex(when + ": a word more", () -> q.word(0, s[1]));
+        }
+    }
+
+    /** All others are at a limit, the least or the greatest. */
+    private static void oneStepBeyondIsRefused() {
+        for (int number = 0; number < 16; number++) {
+            SpillQueue q = Make.formatted(5, 12, 7, 3);
+            Make.insertAll(C, q, 8, 6);
+            for (int i = 0; i < 4; i++) {
+                int[] s = corner(number);
+                s[i] += s[i] == LIMITS[i][0] ? -1 : 1;
+                C.badArgument("format " + java.util.Arrays.toString(s),
+                        () -> q.format(s[0], s[1], s[2], s[3]));
+                C.aboutDue("as before", q, 0, 2, 3, 1, 2, 1, 0);
+            }
+            C.takesDue("as before", q, 6, 8, -1);
         }
     }
 
