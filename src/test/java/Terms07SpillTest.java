@@ -10,6 +10,7 @@ public final class Terms07SpillTest {
         mergingAllCanJustBeMade();
         theRunOfMemoryCannotBeMade();
         whatWasMergedStaysSo();
+        whatWasMergedMakesRoom();
         theRunOfMemoryIsOfAllItsKeys();
         fanRunsOfALevelAreMerged();
         moreThanFanRunsOfALevelAreMerged();
@@ -128,6 +129,35 @@ public final class Terms07SpillTest {
         C.runDue("as it was", q, 0, 2, 0, 1, 4, 1, 100);
         C.runDue("as it was", q, 1, 3, 0, 1, 6, 1, 101);
         C.due("the block is free again", q.about(2), 1);
+    }
+
+    /**
+     * The steps are done in their order: there is one free block, and memory's keys need two. With
+     * synced runs, step 1 frees none of them; with others it frees two.
+     */
+    private static void whatWasMergedMakesRoom() {
+        SpillQueue synced = forged(5, 11, 10, 5, 0, 0);
+        Make.insertDown(C, synced, 1, 10);
+        C.due("sync()", synced.sync(), -2);
+        C.aboutDue("merged all the same", synced, 1, 10, 0, 1, 2, 2, 0);
+        C.runDue("merged all the same", synced, 0, 4, 0, 2, 1, 1, 100);
+
+        SpillQueue q = Make.formatted(5, 11, 10, 5);
+        Make.insertAll(C, q, 201);
+        int[] greatest = {300, 301};
+        for (int key : greatest) {
+            Make.insertDown(C, q, 1, 9);
+            Make.insertAll(C, q, key);
+            C.takesDue("all but one of the new run", q, 1, 2, 3, 4, 5, 6, 7, 8, 9);
+        }
+        C.runDue("one key is left", q, 0, 3, 0, 1, 0, 1, 201);
+        C.runDue("one key is left", q, 1, 4, 0, 1, 0, 1, 300);
+        Make.insertDown(C, q, 1, 9);
+        C.aboutDue("a full memory", q, 2, 10, 1, 1, 2, 5, 0);
+        Make.insertAll(C, q, 302);
+        C.aboutDue("merged to block 2, and memory's keys in 3 and 4", q, 2, 1, 0, 1, 2, 8, 0);
+        C.runDue("merged", q, 0, 2, 0, 2, 1, 1, 201);
+        C.runDue("memory's keys", q, 1, 3, 0, 10, 0, 2, 1);
     }
 
     /** "A run of level 0 of all keys in memory is made .. Then no key is in memory." */

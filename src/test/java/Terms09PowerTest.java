@@ -27,10 +27,13 @@ public final class Terms09PowerTest {
     /**
      * "the n-th from then on: it and all behind it don't happen": the call's writes are these
      * blocks, in this order. Cut at the n-th, the disk has the first n - 1 of them as the whole
-     * call leaves them after n - 1 writes, and the others as they were.
+     * call leaves them after n - 1 writes, and the others as they were. The keys that were synced
+     * before the call are there again then; cut behind the call, those that are synced by it.
      */
-    private static void cutAtEach(String name, int blocks, int words, Build build, Go call,
+    private static void cutAtEach(String name, Build build, Go call, String synced, String then,
             int... order) {
+        int blocks = 12;
+        int words = 11;
         String[] before = disk(build.make(), blocks, words);
         for (int n = 1; n <= order.length + 1; n++) {
             String when = name + ", cut at write " + n;
@@ -52,6 +55,8 @@ public final class Terms09PowerTest {
             for (int block = 0; block < blocks; block++) {
                 C.same(when + ": block " + block, after[block], before[block]);
             }
+            q.recover();
+            C.same(when + ": the keys", Look.keysTaken(q), cut ? synced : then);
         }
     }
 
@@ -67,48 +72,83 @@ public final class Terms09PowerTest {
         return text;
     }
 
+    private static String keys(int from, int to) {
+        StringBuilder text = new StringBuilder();
+        for (int key = from; key <= to; key++) {
+            text.append(key).append(',');
+        }
+        return text.toString();
+    }
+
     /** Runs of 10 keys in blocks 2, 3 and 4, 5, and 10 keys in memory; MOST is 2. */
-    private static SpillQueue mostRuns() {
+    private static SpillQueue mostRuns(boolean synced) {
         SpillQueue q = Make.formatted(12, 11, 10, 5);
-        Make.insertDown(C, q, 201, 210);
-        Make.insertDown(C, q, 101, 110);
+        Make.insertDown(C, q, 21, 30);
+        Make.insertDown(C, q, 11, 20);
+        if (synced) {
+            C.due("sync()", q.sync(), 0);
+        }
         Make.insertDown(C, q, 1, 10);
         C.due("MOST runs", q.about(0), 2);
         return q;
     }
 
     private static void everyWriteOfASpillWithMostRuns() {
-        cutAtEach("insert(), MOST runs", 12, 11, Terms09PowerTest::mostRuns, q -> q.insert(50),
+        cutAtEach("insert(), MOST runs", () -> mostRuns(false), q -> q.insert(50), "", "",
                 6, 7, 8, 2, 3);
-        cutAtEach("sync(), MOST runs", 12, 11, Terms09PowerTest::mostRuns, q -> q.sync(),
+        cutAtEach("sync(), MOST runs", () -> mostRuns(false), q -> q.sync(), "", keys(1, 30),
                 6, 7, 8, 2, 3, 0);
+        cutAtEach("insert(), MOST synced runs", () -> mostRuns(true), q -> q.insert(50),
+                keys(11, 30), keys(11, 30), 6, 7, 8, 9, 10);
+        cutAtEach("sync(), MOST synced runs", () -> mostRuns(true), q -> q.sync(),
+                keys(11, 30), keys(1, 30), 6, 7, 8, 9, 10, 1);
     }
 
-    /** Levels 1 and 0, a key each, and a key in memory; FAN is 2. */
-    private static SpillQueue twoLevels() {
-        SpillQueue q = Make.formatted(9, 19, 1, 2);
-        Make.insertAll(C, q, 1, 2, 3, 4);
-        C.due("level 1", q.run(0, 3), 1);
-        C.due("level 0", q.run(1, 3), 0);
+    /** A run of level 0 with 10 keys in blocks 2 and 3, and 10 keys in memory; FAN is 2. */
+    private static SpillQueue oneRun(boolean synced) {
+        SpillQueue q = Make.formatted(12, 11, 10, 2);
+        Make.insertDown(C, q, 11, 20);
+        if (synced) {
+            C.due("sync()", q.sync(), 0);
+        }
+        Make.insertDown(C, q, 1, 10);
+        if (!synced) {
+            C.due("runs", q.about(0), 1);
+        }
         return q;
     }
 
     private static void everyWriteOfASpillThatMergesLevels() {
-        // Level 1 is in block 4, level 0 in 2; the new one in 3, both in 5, and then all in 2.
-        cutAtEach("insert(), two levels", 9, 19, Terms09PowerTest::twoLevels, q -> q.insert(9),
-                3, 5, 2);
+        // The new run goes to 4 and 5, and both then to 6, 7 and 8.
+        cutAtEach("insert(), FAN runs", () -> oneRun(false), q -> q.insert(50), "", "",
+                4, 5, 6, 7, 8);
+        cutAtEach("insert(), FAN runs, one synced", () -> oneRun(true), q -> q.insert(50),
+                keys(11, 20), keys(11, 20), 4, 5, 6, 7, 8);
+        cutAtEach("insert(), runs of a key", () -> {
+            SpillQueue q = Make.formatted(12, 11, 1, 2);
+            Make.insertAll(C, q, 1, 2);
+            C.due("a run", q.about(0), 1);
+            return q;
+        }, q -> q.insert(9), "", "", 3, 4);
     }
 
     private static void everyWriteOfASync() {
-        cutAtEach("sync(), two levels", 9, 19, Terms09PowerTest::twoLevels, q -> q.sync(),
-                3, 5, 2, 0);
-        cutAtEach("sync(), an empty queue", 4, 11, () -> Make.formatted(4, 11, 1, 2),
-                q -> q.sync(), 0);
-        cutAtEach("sync(), epoch 3", 4, 11, () -> {
-            SpillQueue q = Make.formatted(4, 11, 1, 2);
+        cutAtEach("sync(), FAN runs", () -> oneRun(false), q -> q.sync(), "", keys(1, 20),
+                4, 5, 6, 7, 8, 0);
+        cutAtEach("sync(), FAN runs, one synced", () -> oneRun(true), q -> q.sync(),
+                keys(11, 20), keys(1, 20), 4, 5, 6, 7, 8, 1);
+        cutAtEach("sync(), no key", () -> Make.formatted(12, 11, 1, 2), q -> q.sync(), "", "", 0);
+        cutAtEach("sync(), no key, epoch 3", () -> {
+            SpillQueue q = Make.formatted(12, 11, 1, 2);
             C.due("sync()", q.sync(), 0);
             return q;
-        }, q -> q.sync(), 1);
+        }, q -> q.sync(), "", "", 1);
+        // What was taken is there again, unless the superblock is written.
+        cutAtEach("sync(), keys were taken", () -> {
+            SpillQueue q = oneRun(true);
+            Look.keysTaken(q);
+            return q;
+        }, q -> q.sync(), keys(11, 20), "", 1);
     }
 
     private static void theCutWaitsForALaterCall() {

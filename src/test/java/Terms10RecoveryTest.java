@@ -144,6 +144,17 @@ public final class Terms10RecoveryTest {
             runs(q, number, 2, 0, 1, 0, 3, 0, 1, 0);
             recoverDue(number + " runs", q, NONE);
         }
+        // With 14 words three runs would fit but for the last one's level.
+        for (int number = 2; number <= 3; number++) {
+            SpillQueue q = Make.formatted(BLOCKS, 14, 5, 5);
+            q.cut();
+            q.spoil(1, 0, 1);
+            for (int block = 2; block <= 4; block++) {
+                Make.forgeBlock(q, 14, block, 0, block);
+            }
+            Make.forgeBlock(q, 14, 0, 2, number, 2, 0, 1, 0, 3, 0, 1, 0, 4, 0, 1);
+            recoverDue(number + " runs in 14 words", q, number == 2 ? 2 : NONE);
+        }
         for (int number = 0; number <= 2; number++) {
             SpillQueue q = blank();
             block(q, 2, 0, 1);
@@ -197,6 +208,14 @@ public final class Terms10RecoveryTest {
         runDue("- 2^31 keys", threeKeys(), 2, 0, MIN, NONE);
         runDue("2^31 - 1 keys", threeKeys(), 2, 0, MAX, NONE);
         runDue("2^31 - 1 keys from 8 on", threeKeys(), 2, 8, MAX, NONE);
+        // So many keys that a count of their blocks may wrap around, with and without a block.
+        for (int count = MAX; count > MAX - 20; count--) {
+            runDue(count + " keys from 0 on", threeKeys(), 2, 0, count, NONE);
+            runDue(count + " keys, no block", threeKeys(), 0, 0, count, NONE);
+            runDue(count + " keys from 8 on, no block", threeKeys(), 0, 8, count, NONE);
+        }
+        runDue("0 keys, no block", threeKeys(), 0, 0, 0, NONE);
+        runDue("-1 keys, no block", threeKeys(), 0, 0, -1, NONE);
         runDue("0 keys from 3 on", threeKeys(), 2, 3, 0, NONE);
         runDue("-1 keys from 3 on", threeKeys(), 2, 3, -1, NONE);
     }
