@@ -8,6 +8,8 @@ public final class Promise05TakeTest {
         theLevelGoesWithItsRun();
         blocksGo();
         syncedBlocksAreKept();
+        withoutAKeyItChangesNothing();
+        itWritesNothing();
         C.end();
     }
 
@@ -102,5 +104,37 @@ public final class Promise05TakeTest {
         C.due("the first one is still synced", q.about(2), 7);
         C.due("recover()", q.recover(), 21);
         C.takesDue("again", q, 1);
+    }
+
+    /** "-1 when there is none" */
+    private static void withoutAKeyItChangesNothing() {
+        SpillQueue q = Make.formatted(5, 11, 2, 2);
+        Make.insertAll(C, q, 2, 1, 3);
+        C.due("sync()", q.sync(), 0);
+        C.takesDue("all", q, 1, 2, 3);
+        q.cutAt(1);
+        String before = Look.at(q) + Look.atDisk(q, 5, 11);
+        C.takesDue("none", q, -1, -1);
+        C.same("behind it", Look.at(q) + Look.atDisk(q, 5, 11), before);
+        C.due("the cut is still to come", q.sync(), -9);
+        C.due("recover()", q.recover(), 3);
+        C.takesDue("they are there again", q, 1, 2, 3, -1);
+    }
+
+    /** Only memory knows what was taken: neither the disk nor the writes change. */
+    private static void itWritesNothing() {
+        SpillQueue q = Make.formatted(8, 11, 10, 5);
+        Make.insertDown(C, q, 1, 10);
+        Make.insertAll(C, q, 20);
+        q.cutAt(1);
+        String disk = Look.atDisk(q, 8, 11);
+        int writes = q.about(5);
+        for (int key = 1; key <= 10; key++) {
+            C.takesDue("key " + key, q, key);
+        }
+        C.takesDue("the others", q, 20, -1);
+        C.same("the disk", Look.atDisk(q, 8, 11), disk);
+        C.due("writes", q.about(5), writes);
+        C.due("live", q.about(6), 0);
     }
 }
